@@ -16,6 +16,7 @@ public final class HarbourMud {
     /** Some answers may be below 0 by themselves: their REFUSALS lie where no such answer can. */
     private static final int FAR_BELOW = -1000000000;
     private static final long FAR_BELOW_COSTS = -4000000000000000000L;
+    private static final long ABOVE_ALL_COSTS = 4000000000000000000L;
 
     private static final int CELLS_MOST = 8;
     private static final int STUFFS = 2;
@@ -102,7 +103,7 @@ public final class HarbourMud {
     }
 
     public int way(int from, int to, int told, int hundredths) {
-        if (told < 0 || told > 110 || told % 10 != 0) {
+        if (told % 10 != 0) {
             return refuse(NOBODY);
         }
         return refuseIfBelow0(now.addWay(from, to, told / 100, told / 10 % 10, hundredths));
@@ -112,10 +113,10 @@ public final class HarbourMud {
         if (!now.ways.has(way)) {
             return refuse(NOBODY);
         }
-        if (now.ways.isShut[way] == is) {
+        if (now.ways.isShut(way) == is) {
             return 0;
         }
-        now.ways.isShut[way] = is;
+        now.ways.turn(way);
         return 1;
     }
 
@@ -177,12 +178,12 @@ public final class HarbourMud {
     }
 
     public int dredger(int what, int v) {
-        if (what < 0 || what > 4) {
+        if (what < Dredger.CAP || what > Dredger.FEE) {
             return refuse(OTHER);
         }
-        boolean isPlace = what == Dredger.DROP || what == Dredger.TOLD_CELL;
-        if (isPlace && !now.cells.has(v) && !(what == Dredger.DROP && v == SEA)) {
-            return refuse(NOBODY);
+        if (what == Dredger.DROP || what == Dredger.TOLD_CELL) {
+            boolean isThere = now.cells.has(v) || what == Dredger.DROP && v == SEA;
+            return isThere ? now.dredger.change(what, v) : refuse(NOBODY);
         }
         if (v < 0) {
             return refuse(BELOW);
@@ -216,7 +217,7 @@ public final class HarbourMud {
             return FAR_BELOW_COSTS + refuse(why);
         }
         mind.become(now);
-        return mind.runCosts(n, Long.MAX_VALUE);
+        return mind.runCosts(n, ABOVE_ALL_COSTS);
     }
 
     public int holds(int n) {
@@ -248,10 +249,12 @@ public final class HarbourMud {
             return FAR_BELOW + refuse(ROOM);
         }
         mind.become(now);
-        int without = mind.tonsBehind(n, set, stuff);
+        mind.goOn(n, NOWHERE);
+        int without = mind.cells.tonsInSet(set, stuff);
         mind.become(now);
         mind.drop(cell, stuff, tons);
-        return mind.tonsBehind(n, set, stuff) - without;
+        mind.goOn(n, NOWHERE);
+        return mind.cells.tonsInSet(set, stuff) - without;
     }
 
     public int bestDrop(int n) {
@@ -259,11 +262,13 @@ public final class HarbourMud {
         if (why < 0) {
             return refuse(why);
         }
-        long least = Long.MAX_VALUE;
+        long least = ABOVE_ALL_COSTS;
         int best = NONE;
         for (int drop = 0; drop <= SEA; drop++) {
             if (drop == SEA || now.cells.has(drop)) {
-                long costs = costsWith(Dredger.DROP, drop, n, least);
+                mind.become(now);
+                mind.dredger.drop = drop;
+                long costs = mind.runCosts(n, least);
                 if (costs < least) {
                     least = costs;
                     best = drop;
@@ -278,10 +283,12 @@ public final class HarbourMud {
         if (why < 0) {
             return refuse(why);
         }
-        long least = Long.MAX_VALUE;
+        long least = ABOVE_ALL_COSTS;
         int best = NONE;
         for (int plan = NEAR; plan <= TOLD; plan++) {
-            long costs = costsWith(Dredger.PLAN, plan, n, least);
+            mind.become(now);
+            mind.dredger.plan = plan;
+            long costs = mind.runCosts(n, least);
             if (costs < least) {
                 least = costs;
                 best = plan;
@@ -297,7 +304,7 @@ public final class HarbourMud {
         }
         for (int cap = 0; cap <= 950; cap += 50) {
             mind.become(now);
-            mind.dredger.change(Dredger.CAP, cap);
+            mind.dredger.cap = cap;
             if (mind.firstLack(n, BY_PLAN) == NONE) {
                 return cap;
             }
@@ -311,12 +318,12 @@ public final class HarbourMud {
             return refuse(why);
         }
         mind.become(now);
-        long least = mind.runCosts(n, Long.MAX_VALUE);
+        long least = mind.runCosts(n, ABOVE_ALL_COSTS);
         int best = NONE;
-        for (int way = 0; way < WAYS_MOST; way++) {
-            if (now.ways.has(way) && !now.ways.isShut[way]) {
+        for (int way = 0; way < now.ways.number; way++) {
+            if (!now.ways.isShut(way)) {
                 mind.become(now);
-                mind.ways.isShut[way] = true;
+                mind.ways.turn(way);
                 long costs = mind.runCosts(n, least);
                 if (costs < least) {
                     least = costs;
@@ -338,10 +345,12 @@ public final class HarbourMud {
             return FAR_BELOW + refuse(ROOM);
         }
         mind.become(now);
-        int with = mind.settledBehind(n);
+        mind.goOn(n, BY_PLAN);
+        int with = mind.cells.settledInAll();
         mind.become(now);
         mind.rivers.tonsATide[river] = 0;
-        return with - mind.settledBehind(n);
+        mind.goOn(n, BY_PLAN);
+        return with - mind.cells.settledInAll();
     }
 
     public int row(int v) {
@@ -369,7 +378,7 @@ public final class HarbourMud {
         mind.become(now);
         int firstEmpty = NONE;
         long costs = 0;
-        for (int i = 0; i < rowLength && i < ROW_MOST; i++) {
+        for (int i = 0; i < rowLength; i++) {
             mind.goBy(rowBytes[i]);
             costs += mind.tideCosts();
             if (firstEmpty == NONE && rowBytes[i] != NOWHERE && mind.takenLast == 0) {
@@ -439,14 +448,8 @@ public final class HarbourMud {
         return now.cells.number == 0 ? STATE : 0;
     }
 
-    private long costsWith(int what, int v, int n, long enough) {
-        mind.become(now);
-        mind.dredger.change(what, v);
-        return mind.runCosts(n, enough);
-    }
-
     private boolean rowIsOfCells() {
-        for (int i = 0; i < rowLength && i < ROW_MOST; i++) {
+        for (int i = 0; i < rowLength; i++) {
             if (rowBytes[i] != NOWHERE && !now.cells.has(rowBytes[i])) {
                 return false;
             }
@@ -462,9 +465,16 @@ public final class HarbourMud {
         return kind == SPRING || kind == NEAP;
     }
 
-    /** Where a CELL's STUFF stands in the rows of tons; the masks keep it inside them, whatever is asked. */
+    /**
+     * Where a CELL's STUFF stands in the rows of tons: SAND of all CELLS, then MUD of all. The masks keep it
+     * inside the rows, whatever is asked.
+     */
     private static int heapOf(int cell, int stuff) {
-        return (cell & CELLS_MOST - 1) * STUFFS + (stuff & STUFFS - 1);
+        return (stuff & STUFFS - 1) * CELLS_MOST + (cell & CELLS_MOST - 1);
+    }
+
+    private static int depthAbove(int settledTons, int base) {
+        return Math.max(0, base - settledTons / 100);
     }
 
     /** Hundredths of tons, cut; rivers can bring more tons than an int could hold a hundredfold. */
@@ -472,7 +482,7 @@ public final class HarbourMud {
         return (int) ((long) tons * hundredths / 100);
     }
 
-    /** The CELLS, with what lies in them. */
+    /** The CELLS, with what lies in them; where there is no CELL yet, the rows of tons hold 0. */
     private static final class Cells {
         int number = 0;
         final int[] base = new int[CELLS_MOST];
@@ -517,10 +527,6 @@ public final class HarbourMud {
             settles[cell] = 50;
             stirs[cell] = 20;
             price[cell] = 1;
-            for (int stuff = 0; stuff < STUFFS; stuff++) {
-                loose[heapOf(cell, stuff)] = 0;
-                settled[heapOf(cell, stuff)] = 0;
-            }
             return cell;
         }
 
@@ -538,19 +544,28 @@ public final class HarbourMud {
         }
 
         int settledIn(int cell) {
-            return has(cell) ? settled[heapOf(cell, SAND)] + settled[heapOf(cell, MUD)] : 0;
+            if (cell < 0 || cell >= CELLS_MOST) {
+                return 0;
+            }
+            return settled[cell] + settled[CELLS_MOST + cell];
         }
 
         int depthOf(int cell) {
-            return has(cell) ? Math.max(0, base[cell] - settledIn(cell) / 100) : 0;
+            if (cell < 0 || cell >= CELLS_MOST) {
+                return 0;
+            }
+            return depthAbove(settledIn(cell), base[cell]);
         }
 
         int lackOf(int cell) {
-            return has(cell) ? wanted[cell] - depthOf(cell) : 0;
+            if (cell < 0 || cell >= CELLS_MOST) {
+                return 0;
+            }
+            return wanted[cell] - depthAbove(settledIn(cell), base[cell]);
         }
 
         boolean someLack() {
-            for (int cell = 0; has(cell); cell++) {
+            for (int cell = 0; cell < number; cell++) {
                 if (lackOf(cell) > 0) {
                     return true;
                 }
@@ -560,7 +575,7 @@ public final class HarbourMud {
 
         int feetLacked() {
             int feet = 0;
-            for (int cell = 0; has(cell); cell++) {
+            for (int cell = 0; cell < number; cell++) {
                 feet += Math.max(0, lackOf(cell));
             }
             return feet;
@@ -568,7 +583,7 @@ public final class HarbourMud {
 
         long priceOfLacks() {
             long sum = 0;
-            for (int cell = 0; has(cell); cell++) {
+            for (int cell = 0; cell < number; cell++) {
                 sum += (long) Math.max(0, lackOf(cell)) * price[cell];
             }
             return sum;
@@ -576,7 +591,7 @@ public final class HarbourMud {
 
         int settledInAll() {
             int sum = 0;
-            for (int cell = 0; has(cell); cell++) {
+            for (int cell = 0; cell < number; cell++) {
                 sum += settledIn(cell);
             }
             return sum;
@@ -584,7 +599,7 @@ public final class HarbourMud {
 
         int tonsInSet(int set, int stuff) {
             int sum = 0;
-            for (int cell = 0; has(cell); cell++) {
+            for (int cell = 0; cell < number; cell++) {
                 if ((set >> cell & 1) == 1 && isStuff(stuff)) {
                     int heap = heapOf(cell, stuff);
                     sum += loose[heap] + settled[heap];
@@ -599,7 +614,7 @@ public final class HarbourMud {
         }
 
         void stir() {
-            for (int cell = 0; has(cell); cell++) {
+            for (int cell = 0; cell < number; cell++) {
                 for (int stuff = 0; stuff < STUFFS; stuff++) {
                     int heap = heapOf(cell, stuff);
                     int part = partOf(settled[heap], stirs[cell]);
@@ -610,7 +625,7 @@ public final class HarbourMud {
         }
 
         void settle() {
-            for (int cell = 0; has(cell); cell++) {
+            for (int cell = 0; cell < number; cell++) {
                 for (int stuff = 0; stuff < STUFFS; stuff++) {
                     int heap = heapOf(cell, stuff);
                     int part = partOf(loose[heap], settles[cell]);
@@ -624,7 +639,7 @@ public final class HarbourMud {
         int nearest(int passedOver) {
             int most = 0;
             int best = NONE;
-            for (int cell = 0; has(cell); cell++) {
+            for (int cell = 0; cell < number; cell++) {
                 if (cell != passedOver && lackOf(cell) > most) {
                     most = lackOf(cell);
                     best = cell;
@@ -637,7 +652,7 @@ public final class HarbourMud {
         int fullest(int passedOver) {
             int most = -1;
             int best = NONE;
-            for (int cell = 0; has(cell); cell++) {
+            for (int cell = 0; cell < number; cell++) {
                 if (cell != passedOver && lackOf(cell) > -2 && settledIn(cell) > most) {
                     most = settledIn(cell);
                     best = cell;
@@ -655,7 +670,7 @@ public final class HarbourMud {
         final int[] kind = new int[WAYS_MOST];
         final int[] stuff = new int[WAYS_MOST];
         final int[] hundredths = new int[WAYS_MOST];
-        final boolean[] isShut = new boolean[WAYS_MOST];
+        private int shutBits = 0;
 
         void become(Ways other) {
             number = other.number;
@@ -664,7 +679,7 @@ public final class HarbourMud {
             System.arraycopy(other.kind, 0, kind, 0, WAYS_MOST);
             System.arraycopy(other.stuff, 0, stuff, 0, WAYS_MOST);
             System.arraycopy(other.hundredths, 0, hundredths, 0, WAYS_MOST);
-            System.arraycopy(other.isShut, 0, isShut, 0, WAYS_MOST);
+            shutBits = other.shutBits;
         }
 
         boolean has(int way) {
@@ -675,10 +690,19 @@ public final class HarbourMud {
             return number < 0 || number >= WAYS_MOST;
         }
 
+        boolean isShut(int way) {
+            return (shutBits >> way & 1) == 1;
+        }
+
+        /** SHUT becomes open, open SHUT. */
+        void turn(int way) {
+            shutBits ^= 1 << way;
+        }
+
         /** SHUT ones too: they may be opened again. */
         int together(int cell, int itsKind, int itsStuff) {
             int sum = 0;
-            for (int way = 0; has(way); way++) {
+            for (int way = 0; way < number; way++) {
                 if (from[way] == cell && kind[way] == itsKind && stuff[way] == itsStuff) {
                     sum += hundredths[way];
                 }
@@ -697,7 +721,6 @@ public final class HarbourMud {
             kind[way] = itsKind;
             stuff[way] = itsStuff;
             hundredths[way] = itsHundredths;
-            isShut[way] = false;
             return way;
         }
     }
@@ -759,12 +782,11 @@ public final class HarbourMud {
             fee = other.fee;
         }
 
+        /** Of CAP, PLAN and FEE; the others are places. */
         static int greatest(int what) {
             switch (what) {
                 case CAP: return 999;
-                case DROP: return SEA;
                 case PLAN: return TOLD;
-                case TOLD_CELL: return CELLS_MOST - 1;
                 default: return 99;
             }
         }
@@ -889,8 +911,8 @@ public final class HarbourMud {
         /** All at once: what each WAY takes is a part of what lay there before any of them took. */
         private void carry(int kind) {
             System.arraycopy(cells.loose, 0, looseBefore, 0, looseBefore.length);
-            for (int way = 0; ways.has(way); way++) {
-                if (ways.kind[way] == kind && !ways.isShut[way] && cells.has(ways.from[way])) {
+            for (int way = 0; way < ways.number; way++) {
+                if (ways.kind[way] == kind && !ways.isShut(way)) {
                     int stuff = ways.stuff[way];
                     int heap = heapOf(ways.from[way], stuff);
                     int part = partOf(looseBefore[heap], ways.hundredths[way]);
@@ -901,7 +923,7 @@ public final class HarbourMud {
         }
 
         private void bring() {
-            for (int river = 0; rivers.has(river); river++) {
+            for (int river = 0; river < rivers.number; river++) {
                 cells.loose[heapOf(rivers.cell[river], rivers.stuff[river])] += rivers.tonsATide[river];
             }
         }
@@ -971,17 +993,6 @@ public final class HarbourMud {
                 }
             }
             return NONE;
-        }
-
-        int settledBehind(int n) {
-            goOn(n, BY_PLAN);
-            return cells.settledInAll();
-        }
-
-        /** Without the dredger. */
-        int tonsBehind(int n, int set, int stuff) {
-            goOn(n, NOWHERE);
-            return cells.tonsInSet(set, stuff);
         }
     }
 

@@ -137,6 +137,10 @@ public final class BuildTest {
         x.go(1);
         Checks.due("all goes along an open one", x.tons(0, 0, true), 0);
         Checks.due("count(5)", x.count(5), 100);
+        HarbourMud y = new HarbourMud();
+        y.cell(30, 20);
+        y.way(0, 8, 0, 100);
+        Checks.due("at once", y.shut(0, true), 1);
     }
 
     private static void rivers() {

@@ -166,6 +166,9 @@ public final class CoastTest {
         x.set(0, 0, 0);
         x.go(2);
         Checks.due("neaps", x.tons(0, 0, false), 100);
+        Checks.due("springs behind neaps", Checks.coastOf(x, "mnnn;mss;"), 2);
+        x.go(1);
+        Checks.due("a spring", x.tons(0, 0, false), 80);
         Checks.due("c99,99", Checks.coastOf(x, "c99,99;c1,0;"), 2);
         Checks.due("depth(1)", x.depth(1), 99);
         Checks.due("lacks(1)", x.lacks(1), 0);

@@ -50,13 +50,19 @@ public final class ImageTest {
 
     private static void allComesBack() {
         HarbourMud x = full();
+        x.put(0, 0, true, 500);
+        x.go(5);
+        Checks.due("some is gone", x.count(5) > 0 ? 1 : 0, 1);
         String before = Checks.lookOf(x);
         Checks.due("image()", x.image(), 3);
         x.cell(50, 50);
         x.way(3, 8, 0, 100);
         x.river(3, 0, 55);
         x.moon(1, 1);
+        x.put(2, 1, true, 1000);
+        x.way(2, 8, 110, 50);
         x.go(50);
+        Checks.due("some is gone", x.count(5) > 0 ? 1 : 0, 1);
         int[] values = {77, 8, 0, 3, 55};
         for (int what = 0; what < 5; what++) {
             x.dredger(what, values[what]);

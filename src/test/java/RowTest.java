@@ -44,6 +44,10 @@ public final class RowTest {
         rows(x, 9, 8);
         Checks.refused(x, "judge(0) with the sea told", () -> x.judge(0), -1);
         Checks.due("the row stays", x.count(8), 2);
+        HarbourMud y = new HarbourMud();
+        y.cell(30, 20);
+        rows(y, 1, 0);
+        Checks.refused(y, "judge(0), the first is not there", () -> y.judge(0), -1);
     }
 
     /** Two CELLS in which nothing moves by itself, 150 and 40 tons SETTLED, CAP 100. */

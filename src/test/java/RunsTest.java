@@ -149,6 +149,24 @@ public final class RunsTest {
         x.put(1, 0, true, 500);
         Checks.due("of it", x.back(0, 1, 100, 2, 1), 50);
         Checks.due("nothing came", x.tons(0, 1, true), 1);
+        backsBesideMuch();
+    }
+
+    /** What is there already goes its way, too: it is the same TIDES without that are compared. */
+    private static void backsBesideMuch() {
+        HarbourMud x = new HarbourMud();
+        stillCell(x, 90, 90);
+        x.way(0, 8, 10, 50);
+        x.put(0, 1, true, 1001);
+        x.put(0, 1, false, 500);
+        x.dredger(0, 100);
+        x.dredger(4, 0);
+        // 1001: 501; 1102: 551; then 501: 251 and 551: 276
+        Checks.due("back(.. 1)", x.back(0, 1, 101, 1, 1), 50);
+        Checks.due("back(.. 2)", x.back(0, 1, 101, 1, 2), 25);
+        // fewer: 3 stay 2, 4 become 2, so the one more is gone
+        x.put(0, 1, true, -998);
+        Checks.due("one more is gone", x.back(0, 1, 1, 1, 1), 0);
     }
 
     private static void backsRefused() {
@@ -230,6 +248,32 @@ public final class RunsTest {
         // 99 lie there and 1 comes: 1 foot LACKS unless 1 is taken; NEAR takes then, and DEEP, TRAP, TOLD
         Checks.due("no fee", x.bestPlan(9), 0);
         Checks.due("the plan is as it was", x.dredger(2, 0), 0);
+        bestPlanTold();
+    }
+
+    private static void bestPlanTold() {
+        HarbourMud x = new HarbourMud();
+        stillCell(x, 30, 30);
+        stillCell(x, 30, 30);
+        stillCell(x, 30, 0);
+        x.moon(2, 2);
+        x.put(0, 1, false, 100);
+        x.put(1, 1, false, 250);
+        x.set(0, 2, 99);
+        x.set(1, 2, 99);
+        x.dredger(0, 200);
+        x.dredger(1, 2);
+        x.dredger(3, 1);
+        x.dredger(4, 0);
+        Checks.due("all but EBB do alike on one TIDE", x.bestPlan(1), 0);
+        x.put(0, 1, false, 200);
+        x.set(0, 2, 1);
+        // NEAR, DEEP: from 0, then from 1: 200; EBB: 400; TRAP: from 1, and its rest: 6; TOLD: from 1, then from 0: 4
+        Checks.due("first the dear one, then the cheap one", x.bestPlan(2), 4);
+        x.dredger(2, 4);
+        Checks.due("cost(2)", x.cost(2), 4);
+        x.dredger(2, 2);
+        Checks.due("cost(2)", x.cost(2), 6);
     }
 
     private static void leastCaps() {
@@ -280,6 +324,17 @@ public final class RunsTest {
         x.set(1, 2, 0);
         Checks.due("not less than now", x.wall(1), -9);
         Checks.due("none is shut by it", x.shut(1, false), 0);
+        x.set(1, 2, 5);
+        x.moon(1, 1);
+        x.set(0, 3, 30);
+        x.set(0, 0, 100);
+        Checks.due("out to sea must stay open", x.wall(1), -9);
+        HarbourMud y = new HarbourMud();
+        y.cell(30, 0);
+        y.cell(30, 30);
+        y.put(0, 0, true, 9000);
+        y.way(0, 1, 0, 50);
+        Checks.due("the first way", y.wall(1), 0);
     }
 
     private static void shares() {
@@ -306,6 +361,14 @@ public final class RunsTest {
         x.put(1, 1, false, 30);
         Checks.due("it takes as much from 1 with and without", x.share(0, 1), 50);
         Checks.due("the river is there still", x.share(0, 1), 50);
+        x.dredger(0, 0);
+        x.set(1, 0, 100);
+        Checks.due("share(1, 200)", x.share(1, 200), 1400);
+        HarbourMud y = new HarbourMud();
+        y.cell(90, 0);
+        y.river(0, 0, 10);
+        Checks.due("share(0, 1)", y.share(0, 1), 5);
+        Checks.due("share(1, 1)", y.share(1, 1), Checks.FAR - 1);
     }
 
     private static void nothingChanges() {
