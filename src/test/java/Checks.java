@@ -7,15 +7,33 @@ final class Checks {
 
     private static int checked = 0;
     private static int wrong = 0;
+    private static String context = "";
 
     private Checks() {
+    }
+
+    /** What is printed ahead of each wrong answer from here on. */
+    static void context(String words) {
+        context = words;
+    }
+
+    static int checkedSoFar() {
+        return checked;
     }
 
     static void due(String call, long got, long want) {
         checked++;
         if (got != want) {
             wrong++;
-            System.out.println(call + " answered " + got + ", due is " + want);
+            System.out.println(context + call + " answered " + got + ", due is " + want);
+        }
+    }
+
+    static void yes(String what, boolean is) {
+        checked++;
+        if (!is) {
+            wrong++;
+            System.out.println(context + what + ": it is not so");
         }
     }
 
@@ -23,33 +41,19 @@ final class Checks {
         checked++;
         if (!got.equals(want)) {
             wrong++;
-            System.out.println(what + ": " + got + ", due is " + want);
+            System.out.println(context + what + ": " + got + ", due is " + want);
         }
     }
 
-    /** The call answers base + number, one REFUSAL more of that number is counted, and nothing else changes. */
+    /** The call answers base + number, and one REFUSAL more of that number is counted; EdgesTest looks for more. */
     static void refused(HarbourMud x, String call, LongSupplier answer, long base, int number) {
-        String before = lookOf(x);
-        int[] counts = refusalsOf(x);
+        int before = x.count(10 - number);
         due(call, answer.getAsLong(), base + number);
-        counts[-number]++;
-        int[] then = refusalsOf(x);
-        for (int i = 1; i <= 6; i++) {
-            due("count(" + (10 + i) + ") behind " + call, then[i], counts[i]);
-        }
-        same("all there is behind " + call, lookOf(x), before);
+        due("count(" + (10 - number) + ") behind " + call, x.count(10 - number), before + 1);
     }
 
     static void refused(HarbourMud x, String call, LongSupplier answer, int number) {
         refused(x, call, answer, 0, number);
-    }
-
-    private static int[] refusalsOf(HarbourMud x) {
-        int[] counts = new int[7];
-        for (int i = 1; i <= 6; i++) {
-            counts[i] = x.count(10 + i);
-        }
-        return counts;
     }
 
     /** All that can be seen without a change and without a REFUSAL. */

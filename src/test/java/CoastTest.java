@@ -1,3 +1,5 @@
+import java.util.function.Supplier;
+
 /** Promises 2 and 3: the TEXT and COASTS. */
 public final class CoastTest {
     public static void main(String[] args) {
@@ -59,7 +61,8 @@ public final class CoastTest {
         Checks.due("mud stays", x.count(5), 100);
     }
 
-    private static void fault(HarbourMud x, String text, int want) {
+    private static void fault(Supplier<HarbourMud> made, String text, int want) {
+        HarbourMud x = made.get();
         String before = Checks.lookOf(x);
         Checks.due("coast " + text, Checks.coastOf(x, text), want);
         Checks.same("behind " + text, Checks.lookOf(x), before);
@@ -68,10 +71,15 @@ public final class CoastTest {
         }
     }
 
-    private static void cannotGoOn() {
+    private static HarbourMud twoCells() {
         HarbourMud x = new HarbourMud();
         x.cell(30, 30);
         x.cell(30, 30);
+        return x;
+    }
+
+    private static void cannotGoOn() {
+        Supplier<HarbourMud> x = CoastTest::twoCells;
         fault(x, "", -1000);
         String whole = "c12,345;w01sM100;r0S7;msn;";
         String ends = "";
@@ -98,53 +106,62 @@ public final class CoastTest {
         fault(x, "w99sM999;c0,0;x", -1014);
     }
 
-    private static void isNotAsItMustBe() {
-        HarbourMud x = new HarbourMud();
-        x.cell(30, 30);
-        x.cell(30, 30);
+    private static HarbourMud twoCellsAndAWay() {
+        HarbourMud x = twoCells();
         x.way(0, 1, 10, 60);
+        return x;
+    }
+
+    private static void isNotAsItMustBe() {
         String[] texts = {"c0,5;", "c100,5;", "c5,100;", "c999,999;", "w00sM5;", "w02sM5;", "w20sM5;", "w80sM5;", "w88sM5;",
             "w09sM5;", "w90sM5;", "w01sS0;", "w01sS101;", "w01sS999;", "w01sM41;", "r2S5;", "r8S5;", "r9S5;", "r0S0;"};
         for (String text : texts) {
-            fault(x, text, -2000);
-            fault(x, "c1,0;" + text.replace("2", "7"), -2005);
-            fault(x, "ms;" + text + "c0,0;", -2003);
+            fault(CoastTest::twoCellsAndAWay, text, -2000);
+            fault(CoastTest::twoCellsAndAWay, "c1,0;" + text.replace("2", "7"), -2005);
+            fault(CoastTest::twoCellsAndAWay, "ms;" + text + "c0,0;", -2003);
         }
+        HarbourMud x = twoCellsAndAWay();
         Checks.due("as much as there is room for", Checks.coastOf(x, "w01sM40;w01sS100;w01nM100;r0S1;r1M999;"), 5);
-        fault(x, "w08sM1;", -2000);
+        fault(() -> x, "w08sM1;", -2000);
     }
 
     private static void aheadOfIt() {
         HarbourMud x = new HarbourMud();
-        fault(x, "r0S5;c5,5;", -2000);
-        fault(x, "c5,5;w01sS5;c5,5;", -2005);
-        fault(x, "c5,5;w08sS60;w08sS41;", -2013);
-        fault(x, "c5,5;w08sS60;w08sS40;c5,5;w01sS1;", -2026);
+        fault(() -> x, "r0S5;c5,5;", -2000);
+        fault(() -> x, "c5,5;w01sS5;c5,5;", -2005);
+        fault(() -> x, "c5,5;w08sS60;w08sS41;", -2013);
+        fault(() -> x, "c5,5;w08sS60;w08sS40;c5,5;w01sS1;", -2026);
         Checks.due("the same with one cell ahead", Checks.coastOf(x, "c5,5;c5,5;w01sS5;w10sS5;"), 4);
         Checks.due("more", Checks.coastOf(x, "c5,5;w21sS5;"), 2);
         Checks.due("cells", x.count(0), 3);
         Checks.due("ways", x.count(1), 3);
     }
 
-    private static void noRoom() {
+    private static HarbourMud coasts(String... texts) {
         HarbourMud x = new HarbourMud();
-        fault(x, "c1,1;".repeat(9), -2040);
-        Checks.due("eight", Checks.coastOf(x, "c1,1;".repeat(8)), 8);
-        fault(x, "c1,1;", -2000);
-        fault(x, "r0S1;".repeat(9), -2040);
-        Checks.due("eight", Checks.coastOf(x, "r0S1;".repeat(8)), 8);
-        fault(x, "ms;r0S1;", -2003);
-        Checks.due("twelve", Checks.coastOf(x, "w01sS1;".repeat(12)), 12);
-        fault(x, "w01sS1;".repeat(13), -2084);
-        Checks.due("twelve", Checks.coastOf(x, "w01sS1;".repeat(12)), 12);
-        fault(x, "w10sS1;", -2000);
+        for (String text : texts) {
+            Checks.due("coast " + text, Checks.coastOf(x, text) > 0 ? 1 : 0, 1);
+        }
+        return x;
+    }
+
+    private static void noRoom() {
+        String cells = "c1,1;".repeat(8);
+        String rivers = "r0S1;".repeat(8);
+        String ways = "w01sS1;".repeat(12);
+        fault(HarbourMud::new, cells + "c1,1;", -2040);
+        fault(() -> coasts(cells), "c1,1;", -2000);
+        fault(() -> coasts(cells), rivers + "r0S1;", -2040);
+        fault(() -> coasts(cells, rivers), "ms;r0S1;", -2003);
+        fault(() -> coasts(cells, ways), ways + "w01sS1;", -2084);
+        fault(() -> coasts(cells, ways, ways), "w10sS1;", -2000);
     }
 
     private static void nothingComes() {
         HarbourMud x = new HarbourMud();
         x.cell(30, 20);
-        fault(x, "c5,5;w01sS5;r1M5;mnnn;c0,0;", -2022);
-        fault(x, "c5,5;w01sS5;r1M5;mnnn;c", -1023);
+        fault(() -> x, "c5,5;w01sS5;r1M5;mnnn;c0,0;", -2022);
+        fault(() -> x, "c5,5;w01sS5;r1M5;mnnn;c", -1023);
         Checks.due("cells", x.count(0), 1);
         Checks.due("ways", x.count(1), 0);
         Checks.due("rivers", x.count(2), 0);
@@ -158,8 +175,8 @@ public final class CoastTest {
         HarbourMud x = new HarbourMud();
         Checks.due("28", Checks.coastOf(x, "m" + "sn".repeat(14) + ";"), 1);
         Checks.due("kinds", x.count(9), 28);
-        fault(x, "m" + "n".repeat(29) + ";", -1029);
-        fault(x, "m" + "n".repeat(28), -1029);
+        fault(() -> x, "m" + "n".repeat(29) + ";", -1029);
+        fault(() -> x, "m" + "n".repeat(28), -1029);
         Checks.due("the last moon is the one", Checks.coastOf(x, "mss;mn;msss;mnn;c9,0;"), 5);
         Checks.due("kinds", x.count(9), 2);
         x.put(0, 0, false, 100);

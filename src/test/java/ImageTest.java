@@ -119,12 +119,13 @@ public final class ImageTest {
     }
 
     private static void counts() {
-        HarbourMud x = full();
         for (int what : new int[] {-1, 10, 17, 99, -9, Integer.MIN_VALUE, Integer.MAX_VALUE}) {
-            String before = Checks.lookOf(x);
-            Checks.due("count(" + what + ")", x.count(what), -9);
-            Checks.same("behind count(" + what + ")", Checks.lookOf(x), before);
+            HarbourMud looked = full();
+            String before = Checks.lookOf(looked);
+            Checks.due("count(" + what + ")", looked.count(what), -9);
+            Checks.same("behind count(" + what + ")", Checks.lookOf(looked), before);
         }
+        HarbourMud x = full();
         x.tons(9, 0, true);
         x.lacks(9);
         x.back(9, 0, 1, 1, 1);

@@ -3,7 +3,7 @@ import java.util.Random;
 
 /** Runs of 512 calls, drawn from fixed seeds, on the class and on the model: each answer must be the same. */
 public final class ModelTest {
-    private static final int RUNS = 400;
+    private static final int RUNS = 600;
     private static final int CALLS = 512;
 
     private static final String[] NAMES = {"feed", "coast", "cell", "set", "way", "shut", "river", "moon", "put", "tons",
@@ -14,6 +14,7 @@ public final class ModelTest {
     private final HarbourMud x = new HarbourMud();
     private final Model model = new Model();
     private final ArrayDeque<String> latest = new ArrayDeque<>();
+    private int calls = 0;
     private final boolean wild;
     /** Harbours that hold for a while, in which feet are dear and taking is cheap: what is best differs there. */
     private final boolean calm;
@@ -34,8 +35,8 @@ public final class ModelTest {
     }
 
     private boolean run(int seed) {
-        for (int i = 0; i < CALLS; i++) {
-            String name = i < 25 && !wild ? NAMES[2 + random.nextInt(7)] : NAMES[random.nextInt(NAMES.length)];
+        while (calls < CALLS) {
+            String name = calls < 25 && !wild ? NAMES[2 + random.nextInt(7)] : NAMES[random.nextInt(NAMES.length)];
             if (name.equals("feed") && random.nextInt(20) > 0) {
                 if (!compareText(seed)) {
                     return false;
@@ -47,7 +48,12 @@ public final class ModelTest {
         return true;
     }
 
+    /** What would be behind the last call is left out: it is free. */
     private boolean compare(int seed, String name, long[] a) {
+        if (calls >= CALLS) {
+            return true;
+        }
+        calls++;
         long got = callOf(name, a);
         long want = model.call(name, a);
         StringBuilder call = new StringBuilder("seed " + seed + ": " + name + "(");
@@ -92,8 +98,13 @@ public final class ModelTest {
         return compare(seed, "coast", new long[0]);
     }
 
+    /** Asked of the model, since a call on the class would be one of its 512. */
+    private int number(int what) {
+        return (int) model.call("count", new long[] {what});
+    }
+
     private String statement() {
-        int cells = Math.max(1, x.count(0));
+        int cells = Math.max(1, number(0));
         switch (random.nextInt(4)) {
             case 0:
                 if (calm) {
@@ -131,7 +142,7 @@ public final class ModelTest {
     }
 
     private long someCell() {
-        return about(0, Math.max(0, x.count(0) - 1));
+        return about(0, Math.max(0, number(0) - 1));
     }
 
     private long cellOrSea() {
@@ -162,7 +173,7 @@ public final class ModelTest {
                 }
                 return new long[] {someCell(), what, about(0, what < 2 ? 100 : 99)};
             case "way": return new long[] {someCell(), cellOrSea(), wild ? about(0, 120) : 100 * bit() + 10 * bit(), about(1, 60)};
-            case "shut": return new long[] {about(0, Math.max(0, x.count(1) - 1)), bit()};
+            case "shut": return new long[] {about(0, Math.max(0, number(1) - 1)), bit()};
             case "river":
                 boolean great = random.nextInt(4) == 0;
                 return new long[] {someCell(), about(0, 1), calm ? about(1, 150) : great ? about(1, 999) : about(1, 99)};
@@ -177,8 +188,8 @@ public final class ModelTest {
             case "depth":
             case "lacks": return new long[] {someCell()};
             case "dredger": return dredgerArguments();
-            case "back": return new long[] {someCell(), about(0, 1), about(1, 9999), about(0, (1 << x.count(0)) - 1), tides()};
-            case "share": return new long[] {about(0, Math.max(0, x.count(2) - 1)), tides()};
+            case "back": return new long[] {someCell(), about(0, 1), about(1, 9999), about(0, (1 << number(0)) - 1), tides()};
+            case "share": return new long[] {about(0, Math.max(0, number(2) - 1)), tides()};
             case "row": return new long[] {random.nextInt(3) == 0 ? 9 : someCell()};
             case "judge": return new long[] {about(0, 2)};
             case "count": return new long[] {about(0, 16)};

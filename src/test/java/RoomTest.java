@@ -8,7 +8,7 @@ public final class RoomTest {
         com.sun.management.ThreadMXBean threads = (com.sun.management.ThreadMXBean) ManagementFactory.getThreadMXBean();
         long id = Thread.currentThread().getId();
         HarbourMud x = new HarbourMud();
-        dearest(x, 30);
+        dearest(x, 60);
         long before = threads.getThreadAllocatedBytes(id);
         HarbourMud y = new HarbourMud();
         long made = threads.getThreadAllocatedBytes(id);
@@ -28,8 +28,9 @@ public final class RoomTest {
             x.way(i % 8, (i + 1) % 8, 100 * (i & 1), 4);
         }
         x.dredger(0, 300);
-        for (int i = 40; i < calls; i++) {
-            switch (i % 8) {
+        // a MOON comes by two calls
+        for (int i = 41, round = 0; i < calls - 1; i++, round++) {
+            switch (round % 8) {
                 case 0: x.wall(200); break;
                 case 1: x.leastCap(200); break;
                 case 2: x.bestDrop(200); break;
@@ -40,6 +41,7 @@ public final class RoomTest {
                 default:
                     x.feed(3, 0x3b736dL);
                     x.coast();
+                    i++;
             }
         }
     }
