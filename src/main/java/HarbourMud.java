@@ -4,6 +4,9 @@
  *
  * <p>Every row is made once, in the constructor: what is only thought of (RUNS, a COAST that is
  * being read) is worked out in a second harbour that is used again and again.
+ *
+ * <p>Where a row is gone through, the counter is held against the row's length too, though there are never
+ * more CELLS, WAYS, .. than their rows have places: each index is seen to be inside where it is used.
  */
 public final class HarbourMud {
     private static final int NOBODY = -1;
@@ -357,7 +360,7 @@ public final class HarbourMud {
         if (v < 0) {
             return refuse(BELOW);
         }
-        if (v > NOWHERE || rowLength >= ROW_MOST) {
+        if (v > NOWHERE || rowLength < 0 || rowLength >= ROW_MOST) {
             return refuse(ROOM);
         }
         rowBytes[rowLength] = v;
@@ -378,7 +381,7 @@ public final class HarbourMud {
         mind.become(now);
         int firstEmpty = NONE;
         long costs = 0;
-        for (int i = 0; i < rowLength; i++) {
+        for (int i = 0; i < rowLength && i < ROW_MOST; i++) {
             mind.goBy(rowBytes[i]);
             costs += mind.tideCosts();
             if (firstEmpty == NONE && rowBytes[i] != NOWHERE && mind.takenLast == 0) {
@@ -449,7 +452,7 @@ public final class HarbourMud {
     }
 
     private boolean rowIsOfCells() {
-        for (int i = 0; i < rowLength; i++) {
+        for (int i = 0; i < rowLength && i < ROW_MOST; i++) {
             if (rowBytes[i] != NOWHERE && !now.cells.has(rowBytes[i])) {
                 return false;
             }
@@ -583,7 +586,7 @@ public final class HarbourMud {
 
         long priceOfLacks() {
             long sum = 0;
-            for (int cell = 0; cell < number; cell++) {
+            for (int cell = 0; cell < number && cell < CELLS_MOST; cell++) {
                 sum += (long) Math.max(0, lackOf(cell)) * price[cell];
             }
             return sum;
@@ -614,7 +617,7 @@ public final class HarbourMud {
         }
 
         void stir() {
-            for (int cell = 0; cell < number; cell++) {
+            for (int cell = 0; cell < number && cell < CELLS_MOST; cell++) {
                 for (int stuff = 0; stuff < STUFFS; stuff++) {
                     int heap = heapOf(cell, stuff);
                     int part = partOf(settled[heap], stirs[cell]);
@@ -625,7 +628,7 @@ public final class HarbourMud {
         }
 
         void settle() {
-            for (int cell = 0; cell < number; cell++) {
+            for (int cell = 0; cell < number && cell < CELLS_MOST; cell++) {
                 for (int stuff = 0; stuff < STUFFS; stuff++) {
                     int heap = heapOf(cell, stuff);
                     int part = partOf(loose[heap], settles[cell]);
@@ -702,7 +705,7 @@ public final class HarbourMud {
         /** SHUT ones too: they may be opened again. */
         int together(int cell, int itsKind, int itsStuff) {
             int sum = 0;
-            for (int way = 0; way < number; way++) {
+            for (int way = 0; way < number && way < WAYS_MOST; way++) {
                 if (from[way] == cell && kind[way] == itsKind && stuff[way] == itsStuff) {
                     sum += hundredths[way];
                 }
@@ -911,7 +914,7 @@ public final class HarbourMud {
         /** All at once: what each WAY takes is a part of what lay there before any of them took. */
         private void carry(int kind) {
             System.arraycopy(cells.loose, 0, looseBefore, 0, looseBefore.length);
-            for (int way = 0; way < ways.number; way++) {
+            for (int way = 0; way < ways.number && way < WAYS_MOST; way++) {
                 if (ways.kind[way] == kind && !ways.isShut(way)) {
                     int stuff = ways.stuff[way];
                     int heap = heapOf(ways.from[way], stuff);
@@ -923,7 +926,7 @@ public final class HarbourMud {
         }
 
         private void bring() {
-            for (int river = 0; river < rivers.number; river++) {
+            for (int river = 0; river < rivers.number && river < RIVERS_MOST; river++) {
                 cells.loose[heapOf(rivers.cell[river], rivers.stuff[river])] += rivers.tonsATide[river];
             }
         }

@@ -12,24 +12,29 @@ import java.util.TreeSet;
 import java.util.regex.Matcher;
 import java.util.regex.Pattern;
 
-/** The public face, and those rules of ../shared/LANGUAGE.md that can be seen without understanding the program. */
+/** The public face, as the document tells it, and how many and how long LANGUAGE.md lets things be. */
 public final class LanguageTest {
-    private static final String[] FACE = {"feed int int long", "coast int", "cell int int int", "set int int int int",
-        "way int int int int int", "shut int int boolean", "river int int int int", "moon int int int",
-        "put int int int boolean int", "tons int int int boolean", "depth int int", "lacks int int", "dredger int int int",
-        "takes int", "go int int", "cost long int", "holds int int", "alone int int", "back int int int int int int",
-        "bestDrop int int", "bestPlan int int", "leastCap int int", "wall int int", "share int int int", "row int int",
-        "judge int int", "image int", "restore int", "count int int"};
-
     public static void main(String[] args) throws IOException {
-        face();
+        face(faceOf(Files.readString(Path.of("../shared/DOC.md"))));
         classesInside();
-        words(codeOf(Files.readString(Path.of("src/main/java/HarbourMud.java"))));
         lines(Files.readAllLines(Path.of("src/main/java/HarbourMud.java")));
         Checks.end("LanguageTest");
     }
 
-    private static void face() {
+    /** What stands under "The public face": each method as its name, what it answers and what it takes. */
+    private static Set<String> faceOf(String document) {
+        String part = document.replaceAll("(?s).*## The public face(.*?)## .*", "$1");
+        Matcher methods = Pattern.compile("public (\\w+) (\\w+)\\((.*?)\\);").matcher(part);
+        Set<String> face = new TreeSet<>();
+        while (methods.find()) {
+            String taken = methods.group(3).replaceAll("(\\w+) \\w+", " $1").replace(",", "").replaceAll(" +", " ");
+            face.add(methods.group(2) + " " + methods.group(1) + taken);
+        }
+        Checks.due("methods of the document's face", face.size(), 29);
+        return face;
+    }
+
+    private static void face(Set<String> told) {
         Class<?> c = HarbourMud.class;
         Checks.due("public and final", c.getModifiers(), Modifier.PUBLIC | Modifier.FINAL);
         Constructor<?>[] made = c.getDeclaredConstructors();
@@ -47,7 +52,7 @@ public final class LanguageTest {
                 names.add(m.getName());
             }
         }
-        Checks.same("the face", seen.toString(), new TreeSet<>(Arrays.asList(FACE)).toString());
+        Checks.same("the face", seen.toString(), told.toString());
         for (Method m : c.getDeclaredMethods()) {
             boolean isPrivate = Modifier.isPrivate(m.getModifiers());
             Checks.due("no private " + m.getName(), isPrivate && names.contains(m.getName()) ? 1 : 0, 0);
@@ -73,29 +78,6 @@ public final class LanguageTest {
                 Checks.due("seven parameters " + m, m.getParameterCount() <= 7 ? 1 : 0, 1);
             }
         }
-    }
-
-    /** Without comments, and without what stands in quotes. */
-    private static String codeOf(String source) {
-        String code = source.replaceAll("(?s)/\\*.*?\\*/", " ").replaceAll("//[^\n]*", " ");
-        return code.replaceAll("'(\\\\.|[^'\\\\])'", "' '").replaceAll("\"(\\\\.|[^\"\\\\])*\"", "\"\"");
-    }
-
-    private static void words(String code) {
-        List<String> forbidden = List.of("throw", "throws", "try", "catch", "finally", "synchronized", "assert", "import",
-            "package", "volatile", "native", "protected", "hashCode", "toString", "Object", "Exact", "Long", "Arrays");
-        for (String word : forbidden) {
-            Checks.due("the word " + word, Pattern.compile("\\b" + word + "\\b").matcher(code).find() ? 1 : 0, 0);
-        }
-        Checks.due("no lambda", code.contains("->") ? 1 : 0, 0);
-        Checks.due("no method reference", code.contains("::") ? 1 : 0, 0);
-        Matcher dots = Pattern.compile("\\b([A-Z]\\w*)\\.(\\w+)\\(").matcher(code);
-        Set<String> library = new TreeSet<>();
-        while (dots.find()) {
-            library.add(dots.group(1) + "." + dots.group(2));
-        }
-        library.removeAll(Set.of("Dredger.greatest", "Math.max", "Math.min", "System.arraycopy"));
-        Checks.same("what it calls beside", library.toString(), "[]");
     }
 
     private static void lines(List<String> lines) {
