@@ -162,6 +162,7 @@ public final class RulesTest {
             if (isStatic && !isConstant) {
                 leave("static state", tree);
             }
+            // fewer types than rule 3 lists: one more that it lists may be added here once it is needed
             boolean isNumberOrOwn = type.getKind() == TypeKind.INT || type.getKind() == TypeKind.LONG
                 || type.getKind() == TypeKind.BOOLEAN || type.getKind() == TypeKind.CHAR || type.toString().equals("int[]")
                 || type.toString().startsWith("HarbourMud.");
